@@ -60,7 +60,9 @@ public final class GroupAutomaton {
         orbit = new Orbit();
         group.becomeCyclic(2);
         local.restart(2, 2);
-        local.takeFactor(group, 0, 0, false);
+        // the rule a: 1 for the words 1 0 and 1 1
+        local.give(2, 1);
+        local.give(3, 1);
         ring.add(0);
     }
 
@@ -224,8 +226,7 @@ public final class GroupAutomaton {
         if (what < 0 || what > 2) {
             throw new IllegalArgumentException("what is out of range");
         }
-        reverse.prepare(local);
-        if (reverse.wordLength == 0) {
+        if (!hasInverse()) {
             throw new NoSuchElementException("there is no inverse rule");
         }
         if (what == 0) {
@@ -235,8 +236,7 @@ public final class GroupAutomaton {
     }
 
     public int inverseOf(int word) throws NoSuchElementException, IllegalArgumentException {
-        reverse.prepare(local);
-        if (reverse.wordLength == 0) {
+        if (!hasInverse()) {
             throw new NoSuchElementException("there is no inverse rule");
         }
         int code = reverse.codeOfDecimal(word);
@@ -358,8 +358,7 @@ public final class GroupAutomaton {
         if (steps < 1 || steps > MOST_STEPS) {
             throw new IllegalArgumentException("steps is out of range");
         }
-        reverse.prepare(local);
-        if (reverse.wordLength == 0) {
+        if (!hasInverse()) {
             throw new NoSuchElementException("there is no inverse rule");
         }
         work.copy(ring);
@@ -437,6 +436,16 @@ public final class GroupAutomaton {
         }
         changes.takeBack(ring, local);
         return changes.count;
+    }
+
+    private boolean hasInverse() {
+        // the states of a row that an inverse rule tells are told for sure, so the long search needs an injective rule
+        pairs.prepare(local);
+        if (!pairs.isOneToOne) {
+            return false;
+        }
+        reverse.prepare(local);
+        return reverse.wordLength > 0;
     }
 
     /** Puts the ring in work in place of the ring, as a change, and counts the cells that differ. */
@@ -663,13 +672,20 @@ public final class GroupAutomaton {
         }
     }
 
-    /** A rule by its table; a word is told by its code, its states being the digits of a number to the base g. */
+    /**
+     * A rule by its table; a word is told by its code, its states being the digits of a number to the base g.
+     *
+     * <p>The graph of the words: its nodes are the words of w - 1 states, and each word of w states is an edge from
+     * its first to its last w - 1 states, labelled with the state that the rule gives for it. Sets of nodes are bit
+     * sets.
+     */
     private static final class Rule {
         private final int[] table = new int[MOST_WORDS];
+        private final long[] successors = new long[MOST_STATES * MOST_NODES];
+        private final long[] predecessors = new long[MOST_STATES * MOST_NODES];
         int states;
         int wordLength;
         int wordCount;
-        /** The number of words of one state less than the rule reads: the nodes of the graph of the words. */
         int nodes;
         /** Counts the changes, so that what was found out for a table is not found out again. */
         int version;
@@ -740,6 +756,29 @@ public final class GroupAutomaton {
 
         private int stateOf(int word, int place) {
             return remainder(quotient(word, weightOf(place)), states);
+        }
+
+        /** Draws the graph; to be called before after and before. */
+        void link() {
+            Arrays.fill(successors, 0L);
+            Arrays.fill(predecessors, 0L);
+            for (int word = 0; word < wordCount; word++) {
+                int label = gives(word);
+                int from = quotient(word, states);
+                int to = remainder(word, nodes);
+                putBits(successors, label * MOST_NODES + from, after(label, from) | 1L << to);
+                putBits(predecessors, label * MOST_NODES + to, before(label, to) | 1L << from);
+            }
+        }
+
+        /** The nodes to which edges with a label lead from a node. */
+        long after(int label, int node) {
+            return bitsAt(successors, label * MOST_NODES + node);
+        }
+
+        /** The nodes from which edges with a label lead to a node. */
+        long before(int label, int node) {
+            return bitsAt(predecessors, label * MOST_NODES + node);
         }
 
         int countWords(int state) {
@@ -1200,40 +1239,10 @@ public final class GroupAutomaton {
     }
 
     /**
-     * The graph of the words: its nodes are the words of w - 1 states, and each word of w states is an edge from its
-     * first to its last w - 1 states, labelled with the state that the rule gives for it. Sets of nodes are bit sets.
-     */
-    private static final class Graph {
-        private final long[] successors = new long[MOST_STATES * MOST_NODES];
-        private final long[] predecessors = new long[MOST_STATES * MOST_NODES];
-
-        void link(Rule rule) {
-            Arrays.fill(successors, 0L);
-            Arrays.fill(predecessors, 0L);
-            for (int word = 0; word < rule.wordCount; word++) {
-                int label = rule.gives(word);
-                int from = quotient(word, rule.states);
-                int to = remainder(word, rule.nodes);
-                putBits(successors, label * MOST_NODES + from, after(label, from) | 1L << to);
-                putBits(predecessors, label * MOST_NODES + to, before(label, to) | 1L << from);
-            }
-        }
-
-        long after(int label, int node) {
-            return bitsAt(successors, label * MOST_NODES + node);
-        }
-
-        long before(int label, int node) {
-            return bitsAt(predecessors, label * MOST_NODES + node);
-        }
-    }
-
-    /**
      * Two rows that give the same row are two walks with the same labels. So the questions about rows are asked of
      * pairs of nodes; a row of this class has the set of the second nodes for each first node.
      */
     private static final class Pairs {
-        private final Graph graph = new Graph();
         private final long[] seen = new long[MOST_NODES];
         private final long[] fresh = new long[MOST_NODES];
         private final long[] reached = new long[MOST_NODES];
@@ -1247,7 +1256,7 @@ public final class GroupAutomaton {
                 return;
             }
             knownVersion = rule.version;
-            graph.link(rule);
+            rule.link();
             shortest = lengthOfDiamond(rule);
             // a diamond is a pair of different rows that give the same row
             isOneToOne = shortest == 0 && keepsRowsApart(rule);
@@ -1273,7 +1282,7 @@ public final class GroupAutomaton {
             Arrays.fill(reached, 0L);
             for (int word = 0; word < rule.wordCount; word++) {
                 int node = remainder(word, rule.nodes);
-                long same = graph.after(rule.gives(word), quotient(word, rule.states));
+                long same = rule.after(rule.gives(word), quotient(word, rule.states));
                 putBits(reached, node, bitsAt(reached, node) | same & ~(1L << node));
             }
         }
@@ -1311,7 +1320,7 @@ public final class GroupAutomaton {
             long all = 0L;
             for (int node = 0; node < rule.nodes && nodes >> node != 0; node++) {
                 if ((nodes >> node & 1L) != 0) {
-                    all |= graph.after(label, node);
+                    all |= rule.after(label, node);
                 }
             }
             return all;
@@ -1320,8 +1329,10 @@ public final class GroupAutomaton {
         /** Only pairs with endless ways forth and back stand in two rows that give the same row. */
         private boolean keepsRowsApart(Rule rule) {
             Arrays.fill(seen, (1L << rule.nodes) - 1);
-            dropAll(rule, true);
-            dropAll(rule, false);
+            boolean isDropping = true;
+            for (int sweep = 0; isDropping && sweep <= MOST_PAIRS; sweep++) {
+                isDropping = dropDeadEnds(rule);
+            }
             for (int node = 0; node < rule.nodes; node++) {
                 if (bitsAt(seen, node) != 1L << node) {
                     return false;
@@ -1330,19 +1341,12 @@ public final class GroupAutomaton {
             return true;
         }
 
-        private void dropAll(Rule rule, boolean isForth) {
-            boolean isDropping = true;
-            for (int sweep = 0; isDropping && sweep <= MOST_PAIRS; sweep++) {
-                isDropping = dropDeadEnds(rule, isForth);
-            }
-        }
-
-        private boolean dropDeadEnds(Rule rule, boolean isForth) {
+        private boolean dropDeadEnds(Rule rule) {
             boolean isDropping = false;
             for (int first = 0; first < rule.nodes; first++) {
                 for (int second = 0; second < rule.nodes; second++) {
                     boolean isLeft = (bitsAt(seen, first) >> second & 1L) != 0;
-                    if (isLeft && !(isForth ? hasWayForth(rule, first, second) : hasWayBack(rule, first, second))) {
+                    if (isLeft && !(hasWayForth(rule, first, second) && hasWayBack(rule, first, second))) {
                         putBits(seen, first, bitsAt(seen, first) & ~(1L << second));
                         isDropping = true;
                     }
@@ -1354,7 +1358,7 @@ public final class GroupAutomaton {
         private boolean hasWayForth(Rule rule, int first, int second) {
             for (int state = 0; state < rule.states; state++) {
                 int word = first * rule.states + state;
-                if ((graph.after(rule.gives(word), second) & bitsAt(seen, remainder(word, rule.nodes))) != 0) {
+                if ((rule.after(rule.gives(word), second) & bitsAt(seen, remainder(word, rule.nodes))) != 0) {
                     return true;
                 }
             }
@@ -1364,7 +1368,7 @@ public final class GroupAutomaton {
         private boolean hasWayBack(Rule rule, int first, int second) {
             for (int state = 0; state < rule.states; state++) {
                 int word = state * rule.nodes + first;
-                if ((graph.before(rule.gives(word), second) & bitsAt(seen, quotient(word, rule.states))) != 0) {
+                if ((rule.before(rule.gives(word), second) & bitsAt(seen, quotient(word, rule.states))) != 0) {
                     return true;
                 }
             }
@@ -1656,7 +1660,6 @@ public final class GroupAutomaton {
 
     /** The rings of n cells are the closed walks of n edges in the graph of the words, also for n less than w. */
     private static final class Walks {
-        private final Graph graph = new Graph();
         private final long[] counts = new long[MOST_NODES];
         private final long[] nextCounts = new long[MOST_NODES];
         /** After k edges: the set of the nodes from which the walk can still come back to its start. */
@@ -1709,7 +1712,7 @@ public final class GroupAutomaton {
 
         /** Finds the lexicographically first ring that the rule turns into the goal; false if there is none. */
         boolean findFirst(Rule rule, Ring goal, Ring result) {
-            graph.link(rule);
+            rule.link();
             for (int start = 0; start < rule.nodes; start++) {
                 lookBack(rule, goal, start);
                 if ((bitsAt(returning, 0) >> start & 1L) != 0) {
@@ -1726,7 +1729,7 @@ public final class GroupAutomaton {
                 int label = labelOf(rule, goal, k);
                 long set = 0L;
                 for (int node = 0; node < rule.nodes; node++) {
-                    if ((graph.after(label, node) & bitsAt(returning, k + 1)) != 0) {
+                    if ((rule.after(label, node) & bitsAt(returning, k + 1)) != 0) {
                         set |= 1L << node;
                     }
                 }
@@ -1740,7 +1743,7 @@ public final class GroupAutomaton {
             for (int k = 0; k < goal.length; k++) {
                 result.setTo(k, quotient(node * rule.states, rule.nodes));
                 // all nodes behind this one begin alike, so the least one has the least state at the end
-                long next = graph.after(labelOf(rule, goal, k), node) & bitsAt(returning, k + 1);
+                long next = rule.after(labelOf(rule, goal, k), node) & bitsAt(returning, k + 1);
                 node = leastOf(next);
             }
         }
