@@ -707,7 +707,7 @@ public final class GroupAutomaton {
             }
         }
 
-        /** Multiplies all that the rule gives by a term: the state at a place of the word, or an element if place is NONE. */
+        /** Multiplies all that the rule gives by a term: the state at a place, or an element if the place is NONE. */
         void takeFactor(Group group, int place, int element, boolean isInverse) {
             for (int word = 0; word < wordCount; word++) {
                 int factor = place == NONE ? element : stateOf(word, place);
@@ -1553,7 +1553,10 @@ public final class GroupAutomaton {
             putBits(equation, state, bitsAt(equation, state) + sign);
         }
 
-        /** The words on the way to the node from zeros are the zeros with its first states behind them; what is the same for all nodes is left out. */
+        /**
+         * On the way from the zeros to a node stand the words of zeros with its first states, and with all its states,
+         * behind them. What is the same for all nodes is left out, or added for all.
+         */
         private void addPotential(Rule rule, int node, int sign) {
             addTerm(rule.gives(node), sign);
             addTerm(rule.gives(quotient(node, rule.states)), sign);
