@@ -1686,7 +1686,7 @@ public final class GroupAutomaton {
             return bitsAt(counts, start);
         }
 
-        /** The walk begins at cell 0, and the cell that gets the label of edge k is the next but one to last in its word. */
+        /** The walk begins at cell 0, and the cell that gets the label of edge k is the last but one of its word. */
         private static int labelOf(Rule rule, Ring goal, int k) {
             return goal.stateAround(k + rule.wordLength - 2);
         }
