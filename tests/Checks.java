@@ -58,31 +58,17 @@ final class Checks {
         same(what, answer(call), NoSuchElementException.class.getSimpleName());
     }
 
-    /** Puts a text behind what stands in the buffer. */
+    /** Puts a text into the buffer, which must be empty: 20 bytes a call, then what was too much is cut off. */
     static void write(GroupAutomaton x, String text) {
-        int before = x.truncate(lengthOf(x));
-        int full = (text.length() + 19) / 20 * 20;
         StringBuilder padded = new StringBuilder(text);
-        while (padded.length() < full) {
+        while (padded.length() % 20 != 0) {
             padded.append(' ');
         }
-        for (int at = 0; at < full; at += 20) {
+        for (int at = 0; at < padded.length(); at += 20) {
             x.append(four(padded, at), four(padded, at + 4), four(padded, at + 8), four(padded, at + 12),
                     four(padded, at + 16));
         }
-        x.truncate(before + text.length());
-    }
-
-    /** The buffer tells its length only when it changes: the greatest length that it can be cut to. */
-    private static int lengthOf(GroupAutomaton x) {
-        for (int length = 500; length > 0; length--) {
-            try {
-                return x.truncate(length);
-            } catch (IndexOutOfBoundsException e) {
-                // the buffer is shorter
-            }
-        }
-        return 0;
+        x.truncate(text.length());
     }
 
     private static int four(CharSequence text, int at) {
@@ -96,9 +82,22 @@ final class Checks {
         return x;
     }
 
+    /** The automaton of a text that gets its rule by setCase: the states for all words, in their order. */
+    static GroupAutomaton table(String group, int width, String states, String ring) {
+        GroupAutomaton x = automaton(group + ";width " + width + ";word a;ring " + ring + ";");
+        int g = x.order();
+        for (int word = 0; word < states.length(); word++) {
+            int a = width == 2 ? word / g : word / g / g;
+            int b = width == 2 ? word % g : word / g % g;
+            x.setCase(a, b, word % g, states.charAt(word) - '0');
+        }
+        return x;
+    }
+
     static String ringOf(GroupAutomaton x) {
         StringBuilder states = new StringBuilder();
-        for (int k = 0; k < x.size(); k++) {
+        int size = x.size();
+        for (int k = 0; k < size; k++) {
             states.append(x.cell(k));
         }
         return states.toString();

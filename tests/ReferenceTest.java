@@ -2,8 +2,12 @@ import java.util.Random;
 
 /** Runs of random calls, the same on an object of the class and on the naive one; all answers must agree. */
 public final class ReferenceTest {
-    private static final int RUNS = 260;
+    private static final int RUNS = 900;
     private static final int CALLS = 512;
+    /** A change and the ring after it, cell by cell. */
+    private static final int MOST_AT_ONCE = 20;
+    /** A text of 500 bytes, all states of a table, and what is asked then. */
+    private static final int MOST_FOR_LOAD = 120;
     /** Rules with an inverse rule are rare among random ones; the ring is put behind. */
     private static final String[] TURNING = {
         "cyclic 6;width 2;word a*a*a*b*b*b*b;", "cyclic 4;width 2;word a*b*b;", "cyclic 4;width 3;word a*a*b*c*c;",
@@ -36,6 +40,7 @@ public final class ReferenceTest {
     private final Random random;
     private final GroupAutomaton real = new GroupAutomaton();
     private final Naive naive = new Naive();
+    private int calls = 0;
 
     private ReferenceTest(int seed) {
         random = new Random(seed);
@@ -50,12 +55,15 @@ public final class ReferenceTest {
         Checks.end();
     }
 
+    /** What comes after 512 calls is free, so the last call is made before. */
     private void run(int run) {
-        int calls = 0;
-        while (calls < CALLS) {
-            calls++;
-            if (calls == 1 || random.nextInt(90) == 0) {
-                calls += random.nextInt(6) == 0 ? loadTable(run) : loadSome(run);
+        while (calls <= CALLS - MOST_AT_ONCE) {
+            if (calls == 0 || calls <= CALLS - MOST_FOR_LOAD && random.nextInt(60) == 0) {
+                if (random.nextInt(6) == 0) {
+                    loadTable(run);
+                } else {
+                    loadSome(run);
+                }
             }
             int kind = random.nextInt(100);
             if (kind < 30) {
@@ -71,6 +79,7 @@ public final class ReferenceTest {
     }
 
     private void both(String what, Checks.Call one, Checks.Call other) {
+        calls++;
         Checks.same(what, Checks.answer(one), Checks.answer(other));
     }
 
@@ -98,18 +107,18 @@ public final class ReferenceTest {
 
     // ---- texts
 
-    private int loadSome(int run) {
+    private void loadSome(int run) {
         String text = random.nextInt(4) == 0 ? TURNING[random.nextInt(TURNING.length)] : randomRule();
         text = text + "ring" + randomRing(text) + ";";
         if (random.nextInt(3) == 0) {
             text = damaged(text);
         }
-        return load(run, text);
+        load(run, text);
     }
 
-    private int loadTable(int run) {
+    private void loadTable(int run) {
         String[] rule = TABLES[random.nextInt(TABLES.length)];
-        int calls = load(run, rule[0] + ";word a;ring" + randomRing(rule[0]) + ";");
+        load(run, rule[0] + ";word a;ring" + randomRing(rule[0]) + ";");
         int g = naive.g;
         for (int word = 0; word < rule[1].length() && naive.w == rule[0].charAt(rule[0].length() - 1) - '0'; word++) {
             int last = word;
@@ -117,13 +126,10 @@ public final class ReferenceTest {
             int b = naive.w == 2 ? last % g : last / g % g;
             int state = rule[1].charAt(last) - '0';
             both(run + ": setCase", () -> real.setCase(a, b, last % g, state), () -> naive.setCase(a, b, last % g, state));
-            calls++;
         }
-        return calls;
     }
 
-    private int load(int run, String text) {
-        int calls = 0;
+    private void load(int run, String text) {
         String cut = text.length() > 500 ? text.substring(0, 500) : text;
         while (cut.length() % 20 != 0) {
             cut += (char) ('a' + random.nextInt(4));
@@ -135,14 +141,12 @@ public final class ReferenceTest {
             }
             both("append", () -> real.append(four[0], four[1], four[2], four[3], four[4]),
                     () -> naive.append(four[0], four[1], four[2], four[3], four[4]));
-            calls++;
         }
         int length = random.nextInt(20) == 0 ? near(0, cut.length()) : Math.min(text.length(), 500);
         both("truncate", () -> real.truncate(length), () -> naive.truncate(length));
         both(run + ": load " + text, real::load, naive::load);
         both(run + ": code of " + text, real::errorCode, () -> naive.code);
         both(run + ": position of " + text, real::errorPosition, () -> naive.position);
-        return calls + 4;
     }
 
     private String randomRule() {
@@ -341,6 +345,7 @@ public final class ReferenceTest {
         } else {
             both(run + ": undo", real::undo, naive::undo);
         }
+        calls += 1 + naive.ring.size();
         Checks.same(run + ": ring", Checks.ringOf(real), String.join("", naive.ring.stream().map(String::valueOf).toList()));
     }
 }

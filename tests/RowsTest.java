@@ -77,10 +77,10 @@ public final class RowsTest {
         inverse(rule("cyclic 4;width 2;word a*b*b"), 2, 0, 16);
         inverse(rule("cyclic 4;width 3;word a*a*b*c*c"), 3, 2, 64);
         inverse(rule("cyclic 6;width 2;word a*a*a*b*b*b*b"), 2, 1, 36);
-        inverse(table("cyclic 3;width 3", "000000000211211111122122222"), 4, 0, 81);
-        inverse(table("cyclic 3;width 3", "000122211000011122200211122"), 5, 3, 243);
-        inverse(table("sym;width 2", "012345312045452103012345052143032145"), 5, 5, 7776);
-        inverse(table("sym;width 2", "030002515551222224443330304443151115"), 4, 0, 1296);
+        inverse(table("cyclic 3", 3, "000000000211211111122122222"), 4, 0, 81);
+        inverse(table("cyclic 3", 3, "000122211000011122200211122"), 5, 3, 243);
+        inverse(table("sym", 2, "012345312045452103012345052143032145"), 5, 5, 7776);
+        inverse(table("sym", 2, "030002515551222224443330304443151115"), 4, 0, 1296);
     }
 
     private static void inverse(GroupAutomaton x, int width, int shift, int words) {
@@ -90,15 +90,8 @@ public final class RowsTest {
         Checks.due("words of the inverse rule", x.inverse(2), words);
     }
 
-    private static GroupAutomaton table(String head, String states) {
-        GroupAutomaton x = rule(head + ";word a");
-        int g = x.order();
-        for (int word = 0; word < states.length(); word++) {
-            int a = x.width() == 2 ? word / g : word / g / g;
-            int b = x.width() == 2 ? word % g : word / g % g;
-            x.setCase(a, b, word % g, states.charAt(word) - '0');
-        }
-        return x;
+    private static GroupAutomaton table(String group, int width, String states) {
+        return Checks.table(group, width, states, "0");
     }
 
     private static void inverseOf() {
@@ -107,7 +100,7 @@ public final class RowsTest {
         for (int a = 0; a < 6; a++) {
             for (int b = 0; b < 6; b++) {
                 for (int c = 0; c < 6; c++) {
-                    int word = 10 * x.rule(a, b, 0) + x.rule(b, c, 0);
+                    int word = 10 * ((3 * a + 4 * b) % 6) + (3 * b + 4 * c) % 6;
                     Checks.due("inverseOf(" + word + ")", x.inverseOf(word), b);
                 }
             }
@@ -134,7 +127,7 @@ public final class RowsTest {
     }
 
     private static void notLookedAt() {
-        GroupAutomaton x = table("cyclic 3;width 3", "002102211000211122000111222");
+        GroupAutomaton x = table("cyclic 3", 3, "002102211000211122000111222");
         Checks.due("injective, its inverse being too wide", x.isInjective(), true);
         Checks.due("surjective, its inverse being too wide", x.isSurjective(), true);
         Checks.none("too wide an inverse", () -> x.inverse(0));

@@ -25,11 +25,17 @@ public final class RuleTest {
         GroupAutomaton y = rule("sym;width 2;word b*a");
         Checks.due("width 3", x.width(), 3);
         Checks.due("width 2", y.width(), 2);
+        int[] products = new int[36];
+        for (int k = 0; k < 36; k++) {
+            products[k] = y.product(k / 6, k % 6);
+        }
         for (int a = 0; a < 6; a++) {
             for (int b = 0; b < 6; b++) {
-                Checks.due("b*a", y.rule(a, b, 17), y.product(b, a));
+                Checks.due("b*a", y.rule(a, b, 17), products[6 * b + a]);
                 for (int c = 0; c < 6; c++) {
-                    Checks.due("a*b*c*3", x.rule(a, b, c), x.product(x.product(a, b), x.product(c, 3)));
+                    int ab = products[6 * a + b];
+                    int abc = products[6 * ab + c];
+                    Checks.due("a*b*c*3", x.rule(a, b, c), products[6 * abc + 3]);
                 }
             }
         }
