@@ -20,6 +20,7 @@ public final class TextBoundsTest {
         bytesOfAllKinds();
         truncateBounds();
         truncateForgets();
+        bytesBehindTheEndAreGone();
         textsOf500();
         bufferIsEmptyAfterLoad();
         codeOfTheLatestLoad();
@@ -152,6 +153,32 @@ public final class TextBoundsTest {
         Checks.due("cell", x.cell(0), 2);
     }
 
+    /** Promise 3: cut anywhere, even within a token, the text is as if no more had been appended. */
+    private static void bytesBehindTheEndAreGone() {
+        String text = "cyclic 6;width 3;word a-*b*c;case 01 02 03=04;ring 05 01;";
+        for (int length = 0; length < text.length(); length++) {
+            GroupAutomaton x = new GroupAutomaton();
+            Checks.write(x, text);
+            x.truncate(length);
+            GroupAutomaton loadedBefore = Checks.automaton(text);
+            Checks.write(loadedBefore, text.substring(0, length));
+            GroupAutomaton due = new GroupAutomaton();
+            Checks.write(due, text.substring(0, length));
+            Checks.argument("cut at " + length, due::load);
+            for (GroupAutomaton cut : new GroupAutomaton[] {x, loadedBefore}) {
+                Checks.argument("cut at " + length, cut::load);
+                latest(cut, due.errorCode(), due.errorPosition());
+            }
+        }
+        for (String ring : new String[] {"12", "1 ", "1;"}) {
+            GroupAutomaton x = new GroupAutomaton();
+            Checks.write(x, "klein;width 2;word a;ring " + ring);
+            x.truncate(27);
+            Checks.argument("cut behind the 1", x::load);
+            latest(x, 1, 27);
+        }
+    }
+
     /** "A text buffer of at most 500 bytes": all of them count. */
     private static void textsOf500() {
         String start = "sym;width 3;word a;ring 5";
@@ -226,6 +253,15 @@ public final class TextBoundsTest {
         bad("kleinz;", 1, 0);
         bad("aklein;", 1, 0);
         bad("zklein;", 1, 0);
+        bad("zlein;", 1, 0);
+        bad("kleiz;", 1, 0);
+        bad("klei;", 1, 0);
+        bad("zym;", 1, 0);
+        bad("zyclic 2;", 1, 0);
+        bad("klein;zidth 2;", 1, 6);
+        bad("klein;width 2;zord a;", 1, 14);
+        bad("klein;width 2;word a;zase 0 0=1;", 1, 21);
+        bad("klein;width 2;word a;zing 0;", 1, 21);
         bad("klein`;", 1, 5);
         bad("klein{;", 1, 5);
         bad("`klein;", 1, 0);

@@ -53,7 +53,7 @@ final class Twins {
         return story.toString();
     }
 
-    private static void tell(GroupAutomaton x, View view, StringBuilder story) {
+    static void tell(GroupAutomaton x, View view, StringBuilder story) {
         switch (view) {
             case ERRORS -> answers(story, x::errorCode, x::errorPosition);
             case BUFFER -> tellBuffer(x, story);
@@ -101,16 +101,17 @@ final class Twins {
     }
 
     private static void tellGroup(GroupAutomaton x, StringBuilder story) {
+        int g = x.order();
         answers(story, x::order, x::subgroups);
-        for (int a = 0; a < x.order(); a++) {
-            for (int b = 0; b < x.order(); b++) {
+        for (int a = 0; a < g; a++) {
+            for (int b = 0; b < g; b++) {
                 story.append(x.product(a, b));
             }
             for (int what = 0; what < 4; what++) {
                 story.append(' ').append(x.element(a, what));
             }
         }
-        for (int set = 0; set < 1 << x.order(); set++) {
+        for (int set = 0; set < 1 << g; set++) {
             story.append(' ').append(x.generated(set));
         }
     }
